@@ -4,11 +4,31 @@ import java.util.List;
 /** Prints every answer that is not the one that is due, and ends with exit code 1 if there was one. */
 final class Check {
     private int wrong = 0;
+    private int wrongInTopic = 0;
     private int asked = 0;
     private String topic = "";
 
     void topic(String name) {
         topic = name;
+        wrongInTopic = 0;
+    }
+
+    /** A test of one sentence of the document; what goes wrong in it is told with the promise and the sentence. */
+    void sentence(String promise, String words, Runnable test) {
+        sentence(promise, words, "", test);
+    }
+
+    void sentence(String promise, String words, String which, Runnable test) {
+        topic("Promise " + promise + " \"" + words + "\" " + which);
+        int before = asked;
+        try {
+            test.run();
+        } catch (RuntimeException e) {
+            complain("threw " + e);
+        }
+        if (asked == before) {
+            complain("asked nothing");
+        }
     }
 
     void due(String call, long got, long want) {
@@ -51,9 +71,31 @@ final class Check {
         refused(mill, call, IllegalStateException.class, action);
     }
 
+    /** The unpack() must tell this fault at this place and change nothing else. */
+    void fault(BandMill mill, int way, int n, int kind, int place) {
+        String call = "unpack(" + way + ", " + n + ")";
+        List<Integer> before = stateButPlace(mill);
+        due(call, mill.unpack(way, n), -kind);
+        due(call + " place()", mill.place(), place);
+        due(call + " all else", stateButPlace(mill), before);
+    }
+
+    void rowIs(BandMill mill, int... numbers) {
+        due("row", row(mill), list(numbers));
+    }
+
+    void tapeIs(BandMill mill, int... bytes) {
+        due("tape", tape(mill), list(bytes));
+    }
+
+    void chosenIs(BandMill mill, int n, int first, int other) {
+        due("chosen", list(mill.chosen(0), mill.chosen(1), mill.chosen(2)), list(n, first, other));
+    }
+
     void complain(String text) {
         wrong++;
-        if (wrong <= 50) {
+        wrongInTopic++;
+        if (wrongInTopic <= 5) {
             System.out.println(topic + ": " + text);
         }
     }
@@ -71,6 +113,12 @@ final class Check {
 
     /** All that the face tells of a mill. */
     static List<Integer> state(BandMill mill) {
+        List<Integer> all = stateButPlace(mill);
+        all.add(mill.place());
+        return all;
+    }
+
+    private static List<Integer> stateButPlace(BandMill mill) {
         List<Integer> all = new ArrayList<>();
         for (int what = 0; what < 4; what++) {
             all.add(mill.about(what));
@@ -83,9 +131,16 @@ final class Check {
         for (int what = 0; what < 3; what++) {
             all.add(mill.chosen(what));
         }
-        all.add(mill.place());
         all.addAll(row(mill));
         all.addAll(tape(mill));
+        return all;
+    }
+
+    static List<Integer> list(int... values) {
+        List<Integer> all = new ArrayList<>();
+        for (int v : values) {
+            all.add(v);
+        }
         return all;
     }
 
@@ -110,6 +165,22 @@ final class Check {
         for (int v : numbers) {
             mill.number(v);
         }
+    }
+
+    /** A mill with a row of 400 numbers, ways 0 to 4 of 1 to 5 bytes, and this many bytes on the tape. */
+    static BandMill filledTo(int bytes) {
+        BandMill mill = new BandMill();
+        for (int b = 1; b <= 5; b++) {
+            mill.coding(b, 256, 0, 0);
+        }
+        for (int i = 0; i < 400; i++) {
+            mill.number(i % 256);
+        }
+        for (int i = 0; i < 4; i++) {
+            mill.pack(4);
+        }
+        mill.end(bytes);
+        return mill;
     }
 
     /** The tape becomes these bytes, read from the first one on. */

@@ -1,4 +1,3 @@
-import java.util.ArrayList;
 import java.util.List;
 
 /** Each promise of the document: ordinary inputs, the edges it names, wrong inputs. */
@@ -54,11 +53,7 @@ final class PromisesTest {
     }
 
     private static List<Integer> list(int... values) {
-        List<Integer> all = new ArrayList<>();
-        for (int v : values) {
-            all.add(v);
-        }
-        return all;
+        return Check.list(values);
     }
 
     private static void aNewObject() {
@@ -468,25 +463,9 @@ final class PromisesTest {
         }
     }
 
-    /** A mill with a row of 400 numbers, ways 0 to 4 of 1 to 5 bytes, and this many bytes on the tape. */
-    private static BandMill filledTo(int bytes) {
-        BandMill x = new BandMill();
-        for (int b = 1; b <= 5; b++) {
-            x.coding(b, 256, 0, 0);
-        }
-        for (int i = 0; i < 400; i++) {
-            x.number(i % 256);
-        }
-        for (int i = 0; i < 4; i++) {
-            x.pack(4);
-        }
-        x.end(bytes);
-        return x;
-    }
-
     private static void packAtTheEdge() {
         check.topic("9 pack at the tape's end");
-        BandMill x = filledTo(8000);
+        BandMill x = Check.filledTo(8000);
         check.due("8000 bytes", x.about(2), 8000);
         check.badState(x, "pack(0)", () -> x.pack(0));
         check.badArgument(x, "pack(5)", () -> x.pack(5));
@@ -516,7 +495,7 @@ final class PromisesTest {
 
     private static void packThatCannotOnFullTape() {
         check.topic("9 pack that can't, on a full tape");
-        BandMill x = filledTo(8000);
+        BandMill x = Check.filledTo(8000);
         x.clear();
         x.number(-1);
         check.due("pack(4)", x.pack(4), -1);
@@ -555,7 +534,7 @@ final class PromisesTest {
         x.unpack(0, 1);
         check.due("number behind it", x.number(6), 2);
         check.due("row", Check.row(x), list(4, 6));
-        BandMill y = filledTo(2000);
+        BandMill y = Check.filledTo(2000);
         check.due("400 numbers", y.unpack(4, 400), 2000);
         check.due("about(1)", y.about(1), 400);
         check.due("row(399)", y.row(399), 399 % 256);
@@ -600,16 +579,6 @@ final class PromisesTest {
         check.due("favourites of no number", x.unpack(2, 0), 4);
     }
 
-    private static void fault(BandMill x, int way, int n, int kind, int place) {
-        List<Integer> row = Check.row(x);
-        int read = x.about(3);
-        String call = "unpack(" + way + ", " + n + ")";
-        check.due(call, x.unpack(way, n), -kind);
-        check.due(call + " place()", x.place(), place);
-        check.due(call + " row", Check.row(x), row);
-        check.due(call + " about(3)", x.about(3), read);
-    }
-
     private static void tapeEnds() {
         check.topic("10, 11 fault 1");
         BandMill x = new BandMill();
@@ -619,25 +588,25 @@ final class PromisesTest {
         x.run(2, 0, 1);
         x.popular(2, 0, 0, 1);
         Check.fill(x, 4, 4);
-        fault(x, 0, 1, 1, 0);
+        check.fault(x, 0, 1, 1, 0);
         Check.load(x, 1, 2, 200, 201);
-        fault(x, 0, 5, 1, 4);
-        fault(x, 1, 3, 1, 2);
-        fault(x, 2, 1, 1, 0);
-        fault(x, 3, 3, 1, 2);
+        check.fault(x, 0, 5, 1, 4);
+        check.fault(x, 1, 3, 1, 2);
+        check.fault(x, 2, 1, 1, 0);
+        check.fault(x, 3, 3, 1, 2);
         x.seek(4);
-        fault(x, 0, 400, 1, 4);
+        check.fault(x, 0, 400, 1, 4);
         Check.load(x, 255, 255, 255, 255);
-        fault(x, 2, 1, 1, 0);
+        check.fault(x, 2, 1, 1, 0);
         Check.load(x, 1, 9, 1, 0, 0, 5, 130);
-        fault(x, 4, 3, 1, 6);
-        fault(x, 4, 6, 1, 7);
+        check.fault(x, 4, 3, 1, 6);
+        check.fault(x, 4, 6, 1, 7);
         x.end(4);
-        fault(x, 4, 3, 1, 4);
+        check.fault(x, 4, 3, 1, 4);
         x.end(1);
-        fault(x, 4, 1, 1, 1);
+        check.fault(x, 4, 1, 1, 1);
         x.end(0);
-        fault(x, 4, 0, 1, 0);
+        check.fault(x, 4, 0, 1, 0);
     }
 
     private static void codeThatIsNoNumber() {
@@ -650,22 +619,22 @@ final class PromisesTest {
         x.coding(4, 256, 1, 0);
         Check.fill(x, 4, 4);
         Check.load(x, 255, 255, 255, 127, 0, 0, 0, 128);
-        fault(x, 0, 2, 2, 4);
+        check.fault(x, 0, 2, 2, 4);
         check.due("2^31 - 1", x.unpack(0, 1), 4);
         check.due("row", Check.row(x), list(MAX));
         Check.load(x, 255, 255, 255, 255, 0, 0, 0, 0, 0, 1);
-        fault(x, 1, 2, 2, 5);
+        check.fault(x, 1, 2, 2, 5);
         check.due("2^32 - 1", x.unpack(1, 1), 5);
         check.due("row", Check.row(x), list(MIN));
         Check.load(x, 169, 170, 170, 170, 170, 170, 170, 170, 171, 170, 170, 170);
         check.due("S 2, 2^31 - 1", x.unpack(2, 1), 4);
         check.due("row", Check.row(x), list(MAX));
-        fault(x, 2, 1, 2, 4);
+        check.fault(x, 2, 1, 2, 4);
         x.seek(8);
         check.due("S 2, a number below 0", x.unpack(2, 1), 4);
         check.due("row", Check.row(x), list(-(0xAAAAAAAC >>> 2)));
         Check.load(x, 254, 255, 255, 255, 255, 255, 255, 255);
-        fault(x, 2, 1, 2, 0);
+        check.fault(x, 2, 1, 2, 0);
         x.seek(4);
         check.due("S 2, -2^30", x.unpack(2, 1), 4);
         check.due("row", Check.row(x), list(-(1 << 30)));
@@ -673,7 +642,7 @@ final class PromisesTest {
         check.due("S 1", x.unpack(4, 2), 8);
         check.due("row", Check.row(x), list(MAX, MIN));
         Check.load(x, 1, 1, 1, 1, 2);
-        fault(x, 3, 1, 2, 0);
+        check.fault(x, 3, 1, 2, 0);
         Check.load(x, 1, 1, 1, 1, 1);
         check.due("255^4 and less is below 2^32", x.unpack(3, 1), 5);
         long code = 1L + 255 + 255 * 255 + 255 * 255 * 255 + 255L * 255 * 255 * 255;
@@ -689,21 +658,21 @@ final class PromisesTest {
         Check.fill(x, 4, 4);
         Check.load(x, 9, 6, 6, 6, 6);
         x.seek(1);
-        fault(x, 2, 1, 3, 1);
+        check.fault(x, 2, 1, 3, 1);
         Check.load(x, 1, 0, 0, 0);
-        fault(x, 2, 1, 3, 0);
+        check.fault(x, 2, 1, 3, 0);
         Check.load(x, 6);
-        fault(x, 2, 0, 3, 0);
+        check.fault(x, 2, 0, 3, 0);
         Check.load(x, 4, 20, 22, 4, 0, 6, 0, 0, 0);
-        fault(x, 2, 2, 3, 3);
+        check.fault(x, 2, 2, 3, 3);
         check.due("a token up to how many there are", x.unpack(2, 1), 5);
         check.due("row", Check.row(x), list(11));
         Check.load(x, 2, 20, 0, 0, 1, 0, 0, 0);
-        fault(x, 2, 2, 3, 2);
+        check.fault(x, 2, 2, 3, 2);
         Check.load(x, 2, 20, 4, 0, 0, 0);
-        fault(x, 2, 1, 3, 2);
+        check.fault(x, 2, 1, 3, 2);
         Check.load(x, 0, 2, 0);
-        fault(x, 2, 1, 3, 1);
+        check.fault(x, 2, 1, 3, 1);
     }
 
     private static void faultOrder() {
@@ -716,19 +685,19 @@ final class PromisesTest {
         x.popular(2, 2, 2, 2);
         Check.fill(x, 4, 4);
         Check.load(x, 1, 9, 5, 5);
-        fault(x, 2, 3, 1, 4);
-        fault(x, 2, 2, 3, 2);
+        check.fault(x, 2, 3, 1, 4);
+        check.fault(x, 2, 2, 3, 2);
         Check.load(x, 0, 9, 0, 0, 0, 0, 0, 0, 128);
-        fault(x, 3, 2, 2, 5);
-        fault(x, 3, 1, 3, 1);
+        check.fault(x, 3, 2, 2, 5);
+        check.fault(x, 3, 1, 3, 1);
         Check.load(x, 0, 0, 3);
-        fault(x, 4, 0, 3, 0);
+        check.fault(x, 4, 0, 3, 0);
         Check.load(x, 0, 0, 1, 3);
-        fault(x, 4, 0, 3, 3);
+        check.fault(x, 4, 0, 3, 3);
         Check.load(x, 0, 0, 1, 0, 0, 9, 0, 1, 0);
-        fault(x, 4, 1, 3, 7);
+        check.fault(x, 4, 1, 3, 7);
         Check.load(x, 0, 0, 1, 0, 0, 9, 0, 0, 2);
-        fault(x, 4, 1, 3, 6);
+        check.fault(x, 4, 1, 3, 6);
         Check.load(x, 0, 0, 1, 0, 0, 9, 0, 0, 1, 0);
         check.due("all is well", x.unpack(4, 1), 10);
         check.due("row", Check.row(x), list(9));
@@ -811,7 +780,7 @@ final class PromisesTest {
         check.due("none can", x.bestRun(), -1);
         check.due("chosen", list(x.chosen(0), x.chosen(1), x.chosen(2)), list(-1, -1, -1));
         check.due("the ways stay", x.about(0), 5);
-        BandMill y = filledTo(0);
+        BandMill y = Check.filledTo(0);
         check.due("400 numbers", y.bestRun(), 400);
         check.due("chosen", list(y.chosen(0), y.chosen(1), y.chosen(2)), list(0, 0, 0));
     }
@@ -891,7 +860,7 @@ final class PromisesTest {
         check.due("feed", x.feed(MIN), 7);
         check.due("tape", Check.tape(x), list(1, 2, 3, 128, 0, 0, 0));
         check.due("reading stays", x.about(3), 0);
-        BandMill y = filledTo(7996);
+        BandMill y = Check.filledTo(7996);
         check.due("the last four", y.feed(0x0A0B0C0D), 8000);
         check.due("tape", list(y.tape(7996), y.tape(7999), y.tape(8000)), list(10, 13, -1));
         check.badState(y, "feed beyond", () -> y.feed(1));
