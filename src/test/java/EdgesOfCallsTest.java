@@ -87,6 +87,9 @@ final class EdgesOfCallsTest {
                 EdgesOfCallsTest::bestRunOfNothing);
         check.sentence("13 bestRun", "that which takes the fewest bytes for the row", "a full one",
                 EdgesOfCallsTest::bestRunOfFullRow);
+        check.sentence("13 bestRun", "that which takes the fewest bytes for the row", "numbers at the codes' edges",
+                EdgesOfCallsTest::bestRunAtEdges);
+        check.sentence("13 bestRun", "(of 0 for the first)", "in both parts", EdgesOfCallsTest::bestRunFirstDifference);
         check.sentence("13 bestRun", "NONE if none can write it.", EdgesOfCallsTest::bestRunNone);
         check.sentence("14 chosen", "Of the latest bestRun()", EdgesOfCallsTest::chosenOfLatest);
         check.sentence("14 chosen", "NONE if there was none such", EdgesOfCallsTest::chosenNoneSuch);
@@ -263,7 +266,21 @@ final class EdgesOfCallsTest {
         check.badState(x, "run(1, 0, 4)", () -> x.run(1, 0, 4));
         check.badState(x, "run(0, 4, 4)", () -> x.run(0, 4, 4));
         check.due("run(1, 3, 3)", x.run(1, 3, 3), 5);
+        writesAndReads(x, 5);
         check.badState(x, "run(1, 5, 0)", () -> x.run(1, 5, 0));
+    }
+
+    private static void writesAndReads(BandMill x, int way) {
+        int[][] rows = {{}, {5}, {5, 5, 6}, {6, 7, 7, 6, 6, 0, 8}};
+        for (int[] row : rows) {
+            x.end(0);
+            Check.fill(x, row);
+            int bytes = x.pack(way);
+            check.due("bytes of way " + way, x.about(2), bytes);
+            x.clear();
+            check.due("unpack by way " + way, x.unpack(way, row.length), bytes);
+            check.rowIs(x, row);
+        }
     }
 
     private static void depths() {
@@ -306,6 +323,8 @@ final class EdgesOfCallsTest {
         check.badState(x, "popular(1, 0, 4, 0)", () -> x.popular(1, 0, 4, 0));
         check.badState(x, "popular(1, 0, 0, 4)", () -> x.popular(1, 0, 0, 4));
         check.due("popular(1, 3, 3, 3)", x.popular(1, 3, 3, 3), 5);
+        writesAndReads(x, 4);
+        writesAndReads(x, 5);
         check.badState(x, "popular(1, 5, 0, 0)", () -> x.popular(1, 5, 0, 0));
     }
 
@@ -556,6 +575,16 @@ final class EdgesOfCallsTest {
         check.badArgument(x, "unpack(1, 1)", () -> x.unpack(1, 1));
         check.badArgument(x, "unpack(0, 401)", () -> x.unpack(0, 401));
         check.due("refused calls are no latest ones", x.place(), 3);
+        x.seek(0);
+        x.clear();
+        x.number(5);
+        x.cost(0);
+        x.pack(0);
+        x.best(0, 0);
+        x.bestRun();
+        x.feed(1);
+        x.coding(1, 1, 0, 0);
+        check.due("calls but unpack() leave it", x.place(), 3);
         x.end(0);
         check.due("it is told behind the tape too", x.place(), 3);
         check.fault(x, 0, 1, 1, 0);
@@ -776,6 +805,47 @@ final class EdgesOfCallsTest {
             y.number(MIN);
         }
         check.due("the most bytes", y.bestRun(), 2000);
+        check.chosenIs(y, 0, 0, 0);
+    }
+
+    private static void bestRunAtEdges() {
+        int[] edges = {0, 1, 127, 128, 191, 192, 255, 256, 12479, 12480, 16511, 16512, 65535, 65536, MAX, -1, MIN};
+        for (int b = 1; b <= 5; b++) {
+            for (int h : new int[] {1, 64, 128, 255, 256}) {
+                for (int s = 0; s <= 2; s++) {
+                    BandMill x = coded(b, h, s, 0);
+                    for (int edge : edges) {
+                        Check.fill(x, edge);
+                        check.due("bestRun() of " + edge, x.bestRun(), x.cost(0));
+                    }
+                }
+            }
+        }
+    }
+
+    private static void bestRunFirstDifference() {
+        BandMill x = coded(1, 256, 0, 1);
+        Check.fill(x, 255);
+        check.due("255", x.bestRun(), 1);
+        Check.fill(x, 256);
+        check.due("256 is too far from 0", x.bestRun(), -1);
+        Check.fill(x, 100, 355);
+        check.due("255 more", x.bestRun(), 2);
+        check.chosenIs(x, 0, 0, 0);
+        Check.fill(x, 100, 356);
+        check.due("256 more", x.bestRun(), -1);
+        Check.fill(x, 200, 300, 50);
+        check.due("a fall behind a rise", x.bestRun(), 3);
+        check.chosenIs(x, 2, 0, 0);
+        Check.fill(x, 50, 0, 255, 510);
+        check.due("a rise behind a fall", x.bestRun(), 4);
+        check.chosenIs(x, 1, 0, 0);
+        Check.fill(x, 50, 256, 300);
+        check.due("a rise that begins at 256", x.bestRun(), 3);
+        check.chosenIs(x, 0, 0, 0);
+        BandMill y = coded(4, 256, 0, 1);
+        Check.fill(y, MAX, MIN);
+        check.due("modulo 2^32", y.bestRun(), 8);
         check.chosenIs(y, 0, 0, 0);
     }
 

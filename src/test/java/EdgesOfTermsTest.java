@@ -93,6 +93,8 @@ final class EdgesOfTermsTest {
     private static void reading() {
         check.sentence("10 unpack", "how many favourites, the favourites, as many tokens as numbers", "none",
                 EdgesOfTermsTest::readNoNumbers);
+        check.sentence("10 unpack", "how many favourites, the favourites, as many tokens as numbers", "400",
+                EdgesOfTermsTest::readAFullRow);
         check.sentence("10 unpack", "as many others as there are tokens 0", EdgesOfTermsTest::readOthers);
         check.sentence("10 unpack", "(Whether favourites are rightly chosen is no matter.)",
                 EdgesOfTermsTest::favouritesWronglyChosen);
@@ -777,6 +779,22 @@ final class EdgesOfTermsTest {
         check.due("about(3)", x.about(3), 4);
         Check.load(x, 3, 7, 8);
         check.fault(x, 1, 0, 1, 3);
+    }
+
+    private static void readAFullRow() {
+        BandMill x = popularOf(50);
+        for (int kinds : new int[] {1, 2, 50, 51, 200, 256}) {
+            x.clear();
+            x.end(0);
+            for (int i = 0; i < 400; i++) {
+                x.number(i % kinds);
+            }
+            int bytes = x.pack(1);
+            List<Integer> row = Check.row(x);
+            x.clear();
+            check.due("unpack of " + kinds + " kinds", x.unpack(1, 400), bytes);
+            check.due("row", Check.row(x), row);
+        }
     }
 
     private static void readOthers() {
