@@ -25,6 +25,7 @@ final class PromisesTest {
         costOfPopular();
         favouritesOrder();
         favouritesMost();
+        favouritesOfAnyNumbers();
         nestedFirstWay();
         cannotWrite();
         pack();
@@ -377,6 +378,27 @@ final class PromisesTest {
             x.number(i);
         }
         check.due("400 different ones", x.cost(1), 2 * (1 + 400 + 400));
+    }
+
+    /** Numbers that lie evenly may meet in one corner of a table; the last step does so in the class's own. */
+    private static void favouritesOfAnyNumbers() {
+        check.topic("8, 9 favourites of numbers that lie evenly");
+        for (int step : new int[] {1, 2, -3, 512, 1 << 16, 1 << 22, 0x9E3779B1, 0x0E8B2F51}) {
+            BandMill x = new BandMill();
+            x.coding(4, 256, 1, 0);
+            x.popular(50, 0, 0, 0);
+            for (int i = 0; i < 399; i++) {
+                x.number(i * step);
+            }
+            x.number(398 * step);
+            List<Integer> row = Check.row(x);
+            check.due("pack of step " + step, x.pack(1), 4 * (1 + 1 + 400 + 398));
+            check.due("how many", x.tape(0), 2);
+            check.due("a token", list(x.tape(8 + 397 * 4), x.tape(8 + 398 * 4), x.tape(8 + 399 * 4)), list(0, 2, 2));
+            x.clear();
+            x.unpack(1, 400);
+            check.due("row of step " + step, Check.row(x), row);
+        }
     }
 
     private static void nestedFirstWay() {
